@@ -64,7 +64,6 @@ public final class LiningLog {
         history = new History();
         text = new LogText();
         latestRefusal = NOT_REFUSED;
-        now.startAnew(FIRST_RINGS, FIRST_SECTORS);
     }
 
     // ---- the lining
@@ -431,6 +430,7 @@ public final class LiningLog {
         private final int[] brick = new int[MOST_SPOTS];
         private final int[] layer = new int[MOST_SPOTS];
         private final int[] rates = new int[MOST_RINGS];
+        // Of these, the standing out and the heats for each rest divide: set refuses less than 1.
         private final int[] settings = new int[SETTINGS];
         private final int[] accounts = new int[KEPT_ACCOUNTS];
         private int heats;

@@ -84,6 +84,10 @@ public final class HeatsTest {
         Due.same("layer more than enough", even.heat(1600, 0), 40);
         Due.same("brick", even.spot(1, 0), 3000);
         Due.same("layer", even.spot(1, 1), 40);
+        Due.same("gun(2, 40)", even.gun(2, 40), 24);
+        Due.same("a little more than enough", even.heat(1600, 0), 10 + 20 + 20);
+        Due.same("brick", even.spot(2, 0), 2980);
+        Due.same("layer", even.spot(2, 1), 4);
         LiningLog odd = Due.lining(1, 3);
         odd.set(1, 500);
         Due.same("gun(2, 32)", odd.gun(2, 32), 19);
@@ -175,6 +179,10 @@ public final class HeatsTest {
         log.undo();
         log.undo();
         Due.same("undone", log.count(5), 0);
+        LiningLog anew = overLining();
+        anew.begin(1, 3);
+        Due.same("begun anew", anew.count(5), 0);
+        Due.same("heat(1600, 0)", anew.heat(1600, 0), 30);
         log.set(0, 2000);
         log.rate(0, 0);
         log.heat(1600, 0);

@@ -14,6 +14,8 @@ public final class LiningTest {
         promise9UndoRestores();
         promise9ErrorsAreNoChanges();
         promise10Count();
+        promise10EachSpotCounts();
+        largestLining();
         promise11Spot();
         promise12Neighbour();
         promise13Account();
@@ -90,6 +92,10 @@ public final class LiningTest {
         Due.heats(log, 11, 1800, 100);
         Due.same("over", log.count(5), 1);
         Due.same("campaign", log.count(4), 2);
+        log.undo();
+        for (int spot = 0; spot < 6; spot++) {
+            Due.same("gun(" + spot + ", 100)", log.gun(spot, 100), 60);
+        }
         Due.text(log, "s;x");
         Due.same("begin(4, 5)", log.begin(4, 5), 20);
         firstLining("anew", log, 4, 5);
@@ -336,6 +342,59 @@ public final class LiningTest {
         }
     }
 
+    private static void promise10EachSpotCounts() {
+        for (int thin = 0; thin < 6; thin++) {
+            LiningLog log = Due.lining(2, 3);
+            for (int spot = 0; spot < 6; spot++) {
+                if (spot != thin) {
+                    log.gun(spot, 100);
+                }
+            }
+            Due.same("all but " + thin + " are thicker", log.count(10), 3000);
+            Due.same("all but " + thin + " have a layer", log.count(9), 5);
+            Due.same("left", log.account(4), 18300);
+            log.gun(thin, 50);
+            Due.same("the least is " + thin, log.count(10), 3030);
+            log.reline(-1);
+            log.gun(thin, 50);
+            Due.same("only " + thin, log.count(9), 1);
+            Due.same("left", log.account(4), 18030);
+        }
+    }
+
+    /** The largest lining fills its rows to the last element. */
+    private static void largestLining() {
+        LiningLog log = Due.lining(6, 10);
+        log.set(2, 100000);
+        log.set(5, 1);
+        log.set(1, 500);
+        Due.same("gun(59, 500)", log.gun(59, 500), 400);
+        Due.same("heat(1600, 0)", log.heat(1600, 0), 59 * 10 + 20);
+        Due.same("layer behind the rest", log.spot(59, 1), 190);
+        Due.same("layers", log.count(9), 1);
+        Due.same("least", log.count(10), 2990);
+        Due.same("left", log.account(4), 59 * 2990 + 3190);
+        Due.same("scan()", log.scan(), 60);
+        Due.same("peaks(0)", log.peaks(0), 1);
+        Due.same("the thick one", log.scanned(0, 59, 1), 3190);
+        Due.same("heatsLeft(1800, 100)", log.heatsLeft(1800, 100), 110);
+        Due.same("firstThrough(1800, 100)", log.firstThrough(1800, 100), 0);
+        Due.same("bestSpot(500, 1800, 100)", log.bestSpot(500, 1800, 100), 0);
+        Due.same("reline(5)", log.reline(5), 9 * 2990 + 3190);
+        Due.same("reline(-1)", log.reline(-1), 50 * 2990 + 30000);
+        Due.same("undo()", log.undo(), 3);
+        Due.same("ring 4", log.spot(49, 2), 2990);
+        Due.same("ring 5", log.spot(50, 2), 3000);
+        Due.balanced("largest", log);
+        log.rate(5, 50);
+        log.heat(1800, 100);
+        log.scan();
+        Due.same("the last ring is the hottest", log.scanned(1, 50, 3), 1);
+        Due.same("its next spot", log.scanned(1, 51, 3), 0);
+        Due.same("spot 0 lies far from it, among equal ones", log.scanned(1, 0, 3), 1);
+        Due.same("peaks(1)", log.peaks(1), 2);
+    }
+
     private static void promise11Spot() {
         LiningLog log = Due.lining(2, 4);
         log.rate(1, 20);
@@ -360,6 +419,9 @@ public final class LiningTest {
         Due.same("the least is in the ring", log.spot(3, 4), 15);
         log.gun(2, 100);
         Due.same("spot 3 lies deepest", log.spot(3, 4), -3);
+        for (int deep = 0; deep < 9; deep++) {
+            standsOutBeyond(deep);
+        }
         LiningLog hot = Due.lining(1, 3);
         hot.set(2, 31000);
         Due.same("temperature", hot.spot(0, 3), 50);
@@ -375,6 +437,22 @@ public final class LiningTest {
         for (int wild : Due.WILD) {
             Due.same("spot(" + wild + ", 0)", log.spot(wild, 0), Due.INVALID);
             Due.same("spot(0, " + wild + ")", log.spot(0, wild), Due.INVALID);
+        }
+    }
+
+    /** In a lining of 3 * 3 all spots but one are gunned; what stands out beyond it are its neighbours. */
+    private static void standsOutBeyond(int deep) {
+        LiningLog log = Due.lining(3, 3);
+        for (int spot = 0; spot < 9; spot++) {
+            if (spot != deep) {
+                log.gun(spot, 100);
+            }
+        }
+        for (int spot = 0; spot < 9; spot++) {
+            boolean sameRing = spot / 3 == deep / 3;
+            boolean nextRing = spot % 3 == deep % 3 && Math.abs(spot - deep) == 3;
+            int want = spot == deep ? -60 : sameRing || nextRing ? 60 : 0;
+            Due.same("spot " + spot + " beside " + deep, log.spot(spot, 4), want);
         }
     }
 

@@ -48,30 +48,22 @@ public final class PlansTest {
         Due.same("one more", raised.heatsLeft(1600, 0), 1);
     }
 
-    /** Gunned upon the ring of rate 0, the layer is worn by standing out alone: 6, 3, then no more. */
     private static void promise18StandingOutIsPlanned() {
-        LiningLog log = Due.lining(1, 3);
+        LiningLog log = Due.lining(2, 3);
+        log.set(1, 500);
         log.rate(0, 0);
-        log.set(1, 1);
+        log.rate(1, 50);
+        Due.heats(log, 10, 1800, 100);
+        Due.same("ring 1", log.spot(3, 2), 2000);
+        log.rate(0, 1);
+        log.rate(1, 0);
         log.set(0, 2000);
-        Due.same("gun(0, 10)", log.gun(0, 10), 6);
-        Due.same("a layer does not thin the others", log.heatsLeft(1600, 0), Due.MISSING);
-        // Ring 1 stands out by 100 behind the first heat, by 98 more than that behind the next.
-        LiningLog rings = Due.lining(2, 3);
-        rings.rate(0, 0);
-        rings.rate(1, 50);
-        rings.set(1, 1);
-        rings.heat(1800, 100);
-        rings.rate(1, 0);
-        rings.set(0, 2000);
-        Due.same("the outer ring comes down to 2900 and stays", rings.heatsLeft(1800, 100), Due.MISSING);
-        rings.set(1, 100);
-        rings.reline(-1);
-        rings.rate(1, 50);
-        rings.set(5, 100);
-        // Ring 1 has 2900, 2800, .. 2000 and is below the limit with the eleventh heat.
-        Due.same("the inner ring is first", rings.firstThrough(1800, 100), 3);
-        Due.same("eleven heats", rings.heatsLeft(1800, 100), 11);
+        log.set(1, 1);
+        // Ring 0 wears 1 more than it stands out, and so ends below ring 1, which does not wear.
+        Due.same("by standing out", log.heatsLeft(1600, 0), 1);
+        Due.same("the ring that stands out", log.firstThrough(1600, 0), 0);
+        log.rate(0, 0);
+        Due.same("just down to ring 1", log.heatsLeft(1600, 0), Due.MISSING);
     }
 
     private static void promise18AtMost300() {

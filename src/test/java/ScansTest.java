@@ -44,8 +44,14 @@ public final class ScansTest {
 
     private static void promise8KeepsFour() {
         LiningLog log = Due.lining(1, 3);
+        log.rate(0, 0);
+        log.set(2, 1000);
+        log.scan();
+        log.begin(1, 3);
         for (int made = 1; made <= 6; made++) {
             log.heat(1600, 0);
+            // The shell factor grows with each scan, so that no two have the same temperatures.
+            Due.same("factor", log.set(2, made == 6 ? 100000 : 16000 * made), made == 1 ? 30000 : 16000 * made - 16000);
             log.scan();
             Due.same("scans", log.count(6), Math.min(made, 4));
         }
@@ -56,6 +62,9 @@ public final class ScansTest {
         log.undo();
         Due.same("the dropped one is back", log.scanned(0, 2, 4), 2);
         Due.same("and its thickness", log.scanned(0, 2, 1), 2980);
+        Due.same("and its temperature", log.scanned(0, 2, 0), 40 + 32000 / 3080);
+        Due.same("and the next one's", log.scanned(1, 2, 0), 40 + 48000 / 3070);
+        Due.same("and the latest one's", log.scanned(3, 2, 0), 40 + 80000 / 3050);
         Due.same("the latest is gone", log.scanned(3, 2, 4), 5);
     }
 
@@ -133,6 +142,19 @@ public final class ScansTest {
         Due.same("spot 0", log.scanned(1, 0, 3), 1);
         Due.same("spot 2 has none lower but equal ones", log.scanned(1, 2, 3), 0);
         Due.same("the older one", log.peaks(0), 2);
+        // Gunned by 100 beside it a spot of 3000 has 72, the others 71: a degree is enough.
+        log.reline(-1);
+        for (int spot : new int[] {0, 1, 2}) {
+            Due.same("gun(" + spot + ", 125)", log.gun(spot, 125), 100);
+        }
+        log.scan();
+        Due.same("temperature of 2", log.scanned(2, 2, 0), 71);
+        Due.same("temperature of 3", log.scanned(2, 3, 0), 72);
+        Due.same("3 is a peak", log.scanned(2, 3, 3), 1);
+        Due.same("0 is none beside it", log.scanned(2, 0, 3), 0);
+        Due.same("1 is none beside 0", log.scanned(2, 1, 3), 0);
+        Due.same("one peak", log.peaks(2), 1);
+        log.undo();
         log.set(3, 73);
         Due.same("none is hot", log.peaks(0), 0);
         Due.same("peaks(-1)", log.peaks(-1), Due.INVALID);
@@ -228,6 +250,15 @@ public final class ScansTest {
     }
 
     private static void promise17Unknown() {
+        LiningLog slow = Due.lining(1, 3);
+        slow.rate(0, 1);
+        slow.scan();
+        slow.heat(1600, 0);
+        slow.rate(0, 0);
+        Due.heats(slow, 99, 1600, 0);
+        slow.scan();
+        Due.same("1 in 100 heats", slow.trend(0), 1);
+        Due.same("just above 0", slow.heatsByTrend(0), 219900);
         LiningLog log = Due.lining(1, 3);
         Due.same("no scan", log.heatsByTrend(0), Due.MISSING);
         log.scan();
