@@ -11,15 +11,29 @@ final class Due {
 
     private static int wrong;
     private static int compared;
+    private static String sentence = "";
 
     private Due() {
+    }
+
+    /** Names the sentence of the document that the next answers are held against. */
+    static void about(String next) {
+        sentence = "\"" + next + "\": ";
     }
 
     static void same(String call, int got, int want) {
         compared++;
         if (got != want) {
             wrong++;
-            System.out.println(call + " answered " + got + ", due is " + want);
+            System.out.println(sentence + call + " answered " + got + ", due is " + want);
+        }
+    }
+
+    static void same(String call, String got, String want) {
+        compared++;
+        if (!got.equals(want)) {
+            wrong++;
+            System.out.println(sentence + call + " left " + got + ", due is " + want);
         }
     }
 

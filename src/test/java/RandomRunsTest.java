@@ -4,6 +4,8 @@ import java.util.Random;
 public final class RandomRunsTest {
     private static final int RUNS = 400;
     private static final int CALLS = 512;
+    /** More than the calls that type a text, look at it and run it. */
+    private static final int TYPING = 100;
 
     private final Random random;
     private final LiningLog log = new LiningLog();
@@ -25,7 +27,8 @@ public final class RandomRunsTest {
     private void play(String run) {
         int made = 0;
         while (made < CALLS) {
-            made += random.nextInt(12) == 0 ? typeLines(run, made) : one(run, made);
+            boolean typing = random.nextInt(12) == 0 && made + TYPING <= CALLS;
+            made += typing ? typeLines(run, made) : one(run, made);
         }
     }
 

@@ -70,7 +70,6 @@ public final class TextsTest {
     }
 
     private static void promise24Form() {
-        LiningLog log = new LiningLog();
         String[] wrong = {";", "s", "h", "g", "r", "x;", "S;", " s;", "s ;", "ss;", "s1;", "s,;", "h;",
             "h1600;", "h1600,;", "h,0;", "h1600,0", "h1600 0;", "h1600, 0;", "h 1600,0;", "h1600,0 ;",
             "h1600,0,0;", "h1600,,0;", "h01600,0;", "h1600,00000;", "h-1600,0;", "h+1600,0;",
@@ -78,19 +77,21 @@ public final class TextsTest {
             "g0,5,5;", "r;", "r0", "r-1;", "r00000;", "r0,0;", "r 0;", "rr0;", "H1600,0;", "0;", ",;",
             "h16x0,0;", "h1600.0;", "h/600,0;", "h:600,0;", "h12345678901,0;"};
         for (String text : wrong) {
-            fault(log, text, 0);
-            fault(log, "s;" + text, 2);
-            fault(log, "h1600,0;s;" + text, 10);
-            fault(log, text + "s;", 0);
+            LiningLog each = new LiningLog();
+            fault(each, text, 0);
+            fault(each, "s;" + text, 2);
+            fault(each, "h1600,0;s;" + text, 10);
+            fault(each, text + "s;", 0);
         }
+        LiningLog log = new LiningLog();
         fault(log, "s;;s;", 2);
         fault(log, "s;s", 2);
         fault(log, "r1;g1,1;h1600,1", 8);
-        fault(log, "s;".repeat(49) + "ss", 98);
-        fault(log, "s;".repeat(49) + "h;", 98);
-        fault(log, "s;".repeat(49) + "h1", 98);
-        fault(log, "s;".repeat(47) + "h1600,", 94);
-        fault(log, "s;".repeat(47) + "g0,50;", Due.MISSING);
+        for (String ending : new String[] {"ss", "h;", "h1"}) {
+            fault(new LiningLog(), "s;".repeat(49) + ending, 98);
+        }
+        fault(new LiningLog(), "s;".repeat(47) + "h1600,", 94);
+        fault(new LiningLog(), "s;".repeat(47) + "g0,50;", Due.MISSING);
     }
 
     private static void promise24Ranges() {
